@@ -190,7 +190,7 @@ public final class SevenRings {
     }
 
     public int fits(int piece, int cell) {
-        if (!within(piece, 0, told.pieceCount - 1) || !isCell(cell)) {
+        if (!isPiece(piece) || !isCell(cell)) {
             return BAD;
         }
         return seas.fit(piece, cell);
@@ -261,20 +261,21 @@ public final class SevenRings {
     // ---- 3 what moves, where next
 
     public int moves(int assumption) {
-        if (!within(assumption, 0, ASSUMPTIONS - 1) || isMissingPiece(assumption)) {
+        if (!within(assumption, 0, ASSUMPTIONS - 1)) {
             return BAD;
         }
-        return movedBy(assumption);
+        return movedBy(assumption, weighed());
     }
 
     public int most() {
+        Ends now = weighed();
         int best = 0;
-        int bestMoves = -1;
+        int bestBy = -1;
         for (int assumption = 0; assumption < ASSUMPTIONS; assumption++) {
-            int by = isMissingPiece(assumption) ? -1 : movedBy(assumption);
-            if (by > bestMoves) {
+            int by = movedBy(assumption, now);
+            if (by > bestBy) {
                 best = assumption;
-                bestMoves = by;
+                bestBy = by;
             }
         }
         return best;
@@ -439,7 +440,7 @@ public final class SevenRings {
 
     /** The CELL that lies so many steps by a COURSE from a CELL, or BEYOND. */
     private static int ahead(int cell, int course, int steps) {
-        if (!isCell(cell) || course < 0 || course >= COURSES) {
+        if (cell < 0 || cell >= CELLS || course < 0 || course >= COURSES) {
             return BEYOND;
         }
         int row = cell / SIDE + steps * DOWN[course];
@@ -473,6 +474,7 @@ public final class SevenRings {
         endsAreOld = true;
     }
 
+    /** All WAYS as they are now. */
     private Walk walked() {
         if (walkIsOld) {
             walk.begin(told);
@@ -482,23 +484,29 @@ public final class SevenRings {
         return walk;
     }
 
+    /** What CELLS have now. */
     private Ends weighed() {
+        Walk all = walked();
         if (endsAreOld) {
-            ends.weigh(walked().ends, NOTHING);
+            ends.weigh(all.ends, NOTHING);
             endsAreOld = false;
         }
         return ends;
     }
 
-    private boolean isMissingPiece(int assumption) {
-        return assumption >= FIRST_PIECE && assumption < ALL_DRAGS && assumption - FIRST_PIECE >= told.pieceCount;
+    private boolean isPiece(int piece) {
+        return piece >= 0 && piece < told.pieceCount;
     }
 
-    private int movedBy(int assumption) {
-        Ends now = weighed();
-        if (assumption >= FIRST_PIECE) {
-            otherEnds.weigh(walked().ends, assumption);
+    /** By how much an ASSUMPTION MOVES what CELLS have now; below 0 for a PIECE that is not there. */
+    private int movedBy(int assumption, Ends now) {
+        if (assumption >= ALL_DRAGS || isPiece(assumption - FIRST_PIECE)) {
+            // WAYS are the same without a PIECE or DRAGS.
+            otherEnds.weigh(walk.ends, assumption);
             return now.apart(otherEnds);
+        }
+        if (assumption >= FIRST_PIECE) {
+            return BAD;
         }
         trial.begin(told);
         if (!trial.leaveOut(assumption)) {
@@ -741,7 +749,7 @@ public final class SevenRings {
             }
             for (int first = 0; first < COURSES * PACES; first++) {
                 int before = count;
-                beginBy(first);
+                fly(0, first / PACES, first % PACES + 1, 0, 0, 1, fuel);
                 begun[first] = count - before;
             }
             if (count > 0) {
@@ -762,19 +770,13 @@ public final class SevenRings {
             for (int first = 0; first < COURSES * PACES; first++) {
                 if (toCome < begun[first]) {
                     toPass = toCome;
-                    beginBy(first);
+                    fly(0, first / PACES, first % PACES + 1, 0, 0, 1, fuel);
                     foundNumber = number;
                     return true;
                 }
                 toCome -= begun[first];
             }
             return false;
-        }
-
-        private void beginBy(int first) {
-            if (only[0] == BEYOND || only[0] == cellAt[0]) {
-                fly(0, first / PACES, first % PACES + 1, 0, 0, 1, fuel);
-            }
         }
 
         /** Goes from an HOUR to the next, then on; has is what RINGS gave up to here. */
@@ -785,7 +787,7 @@ public final class SevenRings {
             }
             int from = cellAt[hour];
             int to = ahead(from, course, pace);
-            if (to == BEYOND || !isCell(from) || only[hour + 1] != BEYOND && only[hour + 1] != to) {
+            if (to == BEYOND || !isCell(from) || !isLet(hour, from) || !isLet(hour + 1, to)) {
                 return;
             }
             int hasNow = has * ringGives(hour + 1, fars[from], fars[to]);
@@ -825,37 +827,36 @@ public final class SevenRings {
             }
         }
 
+        /** At the last HOUR: the WAY is passed, is the one that was looked for, or is counted with its ENDS. */
         private void arrive(int course, int turns, int slowed, int has) {
             int weight = (32 >> (2 * turns + slowed)) * has;
-            if (toPass == COUNTING) {
-                count++;
-                weightSum += weight;
-                end(course, weight);
-            } else if (toPass > 0) {
+            if (toPass > 0) {
                 toPass--;
-            } else {
+                return;
+            }
+            if (toPass == 0) {
                 toPass = FOUND;
                 foundWeight = weight;
                 foundTurns = turns;
                 foundSlowed = slowed;
+                return;
             }
-        }
-
-        private void end(int course, int weight) {
-            int cell = cellAt[last];
-            if (isCell(cell)) {
-                ends[cell] += 2 * weight;
-            }
-            for (int more = 1; more <= glide; more++) {
-                int beyond = ahead(cell, course, more);
-                if (beyond != BEYOND) {
-                    ends[beyond] += weight;
+            count++;
+            weightSum += weight;
+            for (int more = 0; more <= glide; more++) {
+                int cell = ahead(cellAt[last], course, more);
+                if (cell != BEYOND) {
+                    ends[cell] += more == 0 ? 2 * weight : weight;
                 }
             }
         }
 
         private void see(int hour, int cell) {
             seen[SIDE * hour + cell / SIDE] |= 1 << cell % SIDE;
+        }
+
+        private boolean isLet(int hour, int cell) {
+            return only[hour] == BEYOND || only[hour] == cell;
         }
 
         private boolean isFound() {
@@ -926,17 +927,14 @@ public final class SevenRings {
         }
 
         private int monthOn(int cell, int month, int high) {
-            int at = stepOrStay(cell, told.currents[inSeason(month, cell)]);
-            return high == 1 ? stepOrStay(at, told.settings[WIND]) : at;
+            int byCurrent = ahead(cell, told.currents[inSeason(month, cell)], 1);
+            int at = byCurrent == BEYOND ? cell : byCurrent;
+            int byWind = high == 1 ? ahead(at, told.settings[WIND], 1) : BEYOND;
+            return byWind == BEYOND ? at : byWind;
         }
 
         private static int inSeason(int month, int cell) {
             return CELLS * (month % SEASONS) + cell;
-        }
-
-        private static int stepOrStay(int cell, int course) {
-            int to = ahead(cell, course, 1);
-            return to == BEYOND ? cell : to;
         }
 
         private static boolean isBeside(int cell, int other) {
@@ -962,19 +960,16 @@ public final class SevenRings {
         void weigh(long[] ofWays, int without) {
             total = 0;
             for (int cell = 0; cell < CELLS && cell < ofWays.length; cell++) {
-                sums[cell] = ofWays[cell] == 0 ? 0 : ofWays[cell] * kept(cell, without);
-                total += sums[cell];
-            }
-        }
-
-        private long kept(int cell, int without) {
-            long product = without == ALL_DRAGS ? 1 : told.missed(cell);
-            for (int piece = 0; piece < told.pieceCount && piece < PIECES; piece++) {
-                if (product != 0 && piece != without - FIRST_PIECE) {
-                    product *= seas.fit(piece, cell);
+                long sum = ofWays[cell];
+                if (sum != 0 && without != ALL_DRAGS) {
+                    sum *= told.missed(cell);
                 }
+                for (int piece = 0; piece < told.pieceCount && sum != 0; piece++) {
+                    sum *= piece == without - FIRST_PIECE ? 1 : seas.fit(piece, cell);
+                }
+                sums[cell] = sum;
+                total += sum;
             }
-            return product;
         }
 
         /** By how many thousandths ODDS of CELLS differ from others. */
