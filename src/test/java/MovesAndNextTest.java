@@ -15,6 +15,7 @@ public final class MovesAndNextTest {
     heldCounts();
     heldLeavesOut();
     knownFlights();
+    knownFlightsOfSixHours();
     image();
     Check.end();
   }
@@ -188,6 +189,10 @@ public final class MovesAndNextTest {
     due("24 the only one", x.next(), 44);
     x.drag(44, 1);
     due("24 all were dragged", x.next(), NONE);
+    x = star();
+    x.set(1, 11);
+    x.piece(0, 1, 0, 0, 0);
+    due("24 the greatest is CELL 0", x.next(), 0);
   }
 
   private static void should() {
@@ -315,6 +320,17 @@ public final class MovesAndNextTest {
     holds(x, false, 95, 65, 35, 33, 31);
   }
 
+  /** Each HOUR counts, the last one, too. */
+  private static void knownFlightsOfSixHours() {
+    SevenRings x = new SevenRings();
+    x.set(1, 90);
+    x.set(3, 0);
+    holds(x, true, 90, 80, 70, 60, 50, 40, 30);
+    holds(x, false, 90, 80, 70, 60, 50, 40, 31);
+    holds(x, false, 90, 80, 70, 60, 50, 40, 100);
+    holds(x, false, 91, 80, 70, 60, 50, 40, 30);
+  }
+
   private static void holds(SevenRings x, boolean known, int... cells) {
     int got = held(x, cells);
     Check.holds("26 known " + known + " of " + java.util.Arrays.toString(cells) + ": " + got, known ? got >= 0 : got == NOT);
@@ -327,6 +343,7 @@ public final class MovesAndNextTest {
     x.ring(3, 1, 2);
     x.cell(1, 7, 0, 3);
     x.cell(0, 8, 1, 4);
+    x.cell(1, 99, 1, 7);
     x.depth(9, 6);
     x.piece(55, 3, 1, 2, 0);
     x.drag(22, 5);
@@ -337,6 +354,7 @@ public final class MovesAndNextTest {
     Check.rings(x, "1:1-;2:2-;3:3-;4:4-;5:5-;6:6-");
     x.cell(1, 7, 0, 2);
     x.cell(0, 8, 1, 1);
+    x.cell(1, 99, 1, 1);
     x.depth(9, 1);
     x.clear();
     x.piece(1, 1, 0, 0, 0);
@@ -357,6 +375,7 @@ public final class MovesAndNextTest {
     due("28", x.count(0) + x.count(1), 1);
     due("28", x.cell(1, 7, 0, 2), 3);
     due("28", x.cell(0, 8, 1, 1), 4);
+    due("28", x.cell(1, 99, 1, 1), 7);
     due("28", x.depth(9, 1), 6);
     due("28", x.count(2), 1);
     due("28", x.count(3), 1);
@@ -369,5 +388,35 @@ public final class MovesAndNextTest {
     x.set(1, 7);
     due("28 the later one", x.restore(), 1);
     due("28 the later one", x.set(1, 0), 0);
+    imageOfPiecesAndDrags();
+  }
+
+  /** PIECES and DRAGS that came behind the IMAGE leave nothing of theirs in those that come back. */
+  private static void imageOfPiecesAndDrags() {
+    SevenRings x = star();
+    x.piece(45, 2, 0, 2, 0);
+    x.drag(45, 4);
+    // 45 by 4 and 4; 35, 44, 46, 54 and 56 by 1 and 8.
+    due("18", x.odds(45, 0), 2);
+    due("18", x.odds(45, 1), 7);
+    x.image();
+    x.clear();
+    x.piece(77, 2, 1, 1, 9);
+    x.drag(77, 7);
+    due("18 cold", x.odds(45, 0), NONE);
+    x.restore();
+    due("28 the drag", x.next(), 35);
+    due("28 the odds", x.odds(45, 0), 2);
+    due("28 the odds", x.odds(45, 1), 7);
+    due("28 the piece", x.fits(0, 45), 4);
+    x.cell(0, 45, 1, 0);
+    x.cell(1, 45, 1, 0);
+    due("28 what it needs", x.fits(0, 45), 4);
+    x.image();
+    x.set(5, 1);
+    due("18", x.odds(35, 0), 0);
+    x.restore();
+    due("28 ways", x.ways(), 24);
+    due("28 ways", x.odds(35, 0), 1);
   }
 }
