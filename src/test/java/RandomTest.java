@@ -2,19 +2,26 @@ import java.util.Random;
 
 /** Long runs of calls that chance picks (the same each time), held against the Oracle. */
 public final class RandomTest {
-  private static final int RUNS = 160, CALLS = 400;
+  /** An object is used for at most 512 calls; one round of the loop takes at most some 110. */
+  private static final int RUNS = 1200, CALLS = 400;
   private static Random chance;
   private static SevenRings x;
   private static Oracle o;
   private static int run;
+  private static int calls;
 
   public static void main(String[] args) {
     for (run = 0; run < RUNS; run++) {
       chance = new Random(7000 + run);
       x = new SevenRings();
       o = new Oracle();
+      calls = 0;
       prepare();
-      for (int i = 0; i < CALLS; i++) call();
+      // Each round counts for one at least, so that those which ask nothing end, too.
+      while (calls < CALLS) {
+        calls++;
+        call();
+      }
     }
     Check.end();
   }
@@ -31,7 +38,16 @@ public final class RandomTest {
     return a + of(b - a + 1);
   }
 
-  private static void due(String call, long got, long want) { Check.due("run " + run + ": " + call, got, want); }
+  private static void due(String call, long got, long want) {
+    calls++;
+    Check.due("run " + run + ": " + call, got, want);
+  }
+
+  /** What the object answered to a call that is only made to pick what to ask. */
+  private static int seen(int answer) {
+    calls++;
+    return answer;
+  }
 
   /** Half of the runs begin with a world in which something can be found. */
   private static void prepare() {
@@ -67,8 +83,8 @@ public final class RandomTest {
     int i = of(all);
     int[] fars = new int[7];
     int last = 0;
-    for (int h = 0; h <= 6 && x.way(i, h) >= 0; h++) {
-      fars[h] = x.far(x.way(i, h));
+    for (int h = 0; h <= 6 && seen(x.way(i, h)) >= 0; h++) {
+      fars[h] = seen(x.far(seen(x.way(i, h))));
       last = h;
     }
     for (int h = 1; h <= last; h++) {
@@ -124,7 +140,7 @@ public final class RandomTest {
       }
       case 9: piece(); break;
       case 10: {
-        int cell = of(2) == 0 ? Math.max(0, x.next()) : about(0, 99);
+        int cell = of(2) == 0 ? Math.max(0, seen(x.next())) : about(0, 99);
         int eighths = about(1, 7);
         due("drag(" + cell + ", " + eighths + ")", x.drag(cell, eighths), o.drag(cell, eighths));
         break;
@@ -138,8 +154,8 @@ public final class RandomTest {
   private static void piece() {
     int n = about(1, of(2) == 0 ? 4 : 24);
     int high = about(0, 1);
-    int next = x.next();
-    int cell = of(3) == 0 || next < 0 ? about(0, 99) : Math.max(0, x.drift(next, n, high));
+    int next = seen(x.next());
+    int cell = of(3) == 0 || next < 0 ? about(0, 99) : Math.max(0, seen(x.drift(next, n, high)));
     int age = of(2) == 0 ? 0 : about(0, Math.max(n, 1));
     int need = about(0, 9);
     due("piece(" + cell + ", " + n + ", " + high + ", " + age + ", " + need + ")",
@@ -198,7 +214,7 @@ public final class RandomTest {
       case 1: due("ways()", x.ways(), o.ways()); break;
       case 2: due("weight()", x.weight(), o.weight()); break;
       case 3: case 4: {
-        int all = Math.max(1, x.ways());
+        int all = Math.max(1, seen(x.ways()));
         int i = about(0, all);
         for (int k = 0; k < 3; k++) {
           int hour = about(-3, 6);
@@ -219,7 +235,7 @@ public final class RandomTest {
         break;
       }
       case 8: odds(cell, part); break;
-      default: odds(Math.max(0, x.next()), part);
+      default: odds(Math.max(0, seen(x.next())), part);
     }
   }
 
@@ -242,8 +258,8 @@ public final class RandomTest {
         int n = about(0, 24);
         int high = about(0, 1);
         int part = about(0, 1);
-        int next = x.next();
-        int cell = next < 0 || of(3) == 0 ? about(0, 99) : x.drift(next, n, high);
+        int next = seen(x.next());
+        int cell = next < 0 || of(3) == 0 ? about(0, 99) : seen(x.drift(next, n, high));
         due("should(" + cell + ", " + n + ", " + high + ", " + part + ")",
             x.should(cell, n, high, part), o.should(cell, n, high, part));
       }
@@ -268,7 +284,7 @@ public final class RandomTest {
         break;
       }
       case 4: case 5: {
-        int k = about(0, Math.max(1, x.ways()));
+        int k = about(0, Math.max(1, seen(x.ways())));
         due("film(" + k + ", " + sheet + ", " + lane + ", " + i + ")", x.film(k, sheet, lane, i), o.film(k, sheet, lane, i));
         due("held", x.held(sheet, lane, i), o.held(sheet, lane, i));
         break;

@@ -41,18 +41,19 @@ public final class RingsAndWaysTest {
       due("1 how far " + hour, x.ring(hour, 0, -1), 99);
       due("1 tone " + hour, x.ring(hour, 1, 0), 100);
     }
-    for (int cell = 0; cell < 100; cell++) {
-      due("1 depth", x.depth(cell, 1), 1);
-      for (int season = 0; season < 2; season++) {
-        due("1 current", x.cell(season, cell, 0, 8), 8);
-        due("1 warmth", x.cell(season, cell, 1, 0), 0);
-      }
-    }
+    for (int cell = 0; cell < 100; cell++) due("1 depth", x.depth(cell, 1), 1);
     for (int what = 0; what < 4; what++) due("1 count " + what, x.count(what), 0);
     for (int sheet = 0; sheet < 4; sheet++) due("1 sheet", x.drop(sheet), SevenRings.NULL);
     due("1 image", x.restore(), NONE);
     due("1 tape", x.rings(), -20);
     due("1 clear", x.clear(), 0);
+    x = new SevenRings();
+    for (int cell = 0; cell < 100; cell++) {
+      for (int season = 0; season < 2; season++) {
+        due("1 current", x.cell(season, cell, 0, 8), 8);
+        due("1 warmth", x.cell(season, cell, 1, 0), 0);
+      }
+    }
   }
 
   private static void set() {
