@@ -1077,7 +1077,6 @@ public final class SevenRings {
             place = 0;
             int moving = 0;
             for (int column = 0; column < SIDE; column++) {
-                skipBlanks();
                 int course = isAtEnd() ? NO_NUMBER : bytes[place] - '0';
                 if (course < 0 || course > STILL) {
                     return fault();

@@ -18,6 +18,7 @@ public final class NextEdgesTest {
     knownAtEachHour();
     heldIsGreaterAlone();
     heldByFars();
+    heldByTheLastHour();
     heldLeavesOutAll();
     heldByLanes();
     imageOfNothing();
@@ -286,8 +287,29 @@ public final class NextEdgesTest {
     due("26 those told are no matter", held(x, 55, 56, 47), 4);
     due("7 those told are told", x.ways(), 0);
     due("20 those told are told", x.count(0) + x.count(1), 4);
-    x.set(0, 0);
-    Check.holds("26 by THE EYE", held(x, 55, 56, 47) >= 0);
+    // Each HOUR's RING is taken away, the first and the last alike.
+    for (int hour = 1; hour <= 6; hour++) {
+      for (int what = 0; what <= 1; what++) {
+        x = with(3, 0);
+        x.ring(hour, what, what == 0 ? 40 : 1);
+        due("7 it lets none", x.ways(), 0);
+        due("26 it is no matter", held(x, 0, 1, 2, 3, 4, 5, 6), 0);
+      }
+    }
+    // Seen from 55 two CELLS have more than 53 (above); seen from 53 itself it is 0 FAR, and nothing else is.
+    due("26 by THE EYE", held(with(0, 55, 1, 52, 2, 1, 6, 1), 52, 53), 2);
+    due("26 by THE EYE", held(with(0, 53, 1, 52, 2, 1, 6, 1), 52, 53), 0);
+  }
+
+  /**
+   * Of six HOURS the sixth counts, too. At PACE 1 from CELL 0, seen from there: turned down at last 15 is 10 FAR, where
+   * straight on 6 would be 12: only this one and 51 by COLUMN 0 are left.
+   */
+  private static void heldByTheLastHour() {
+    due("26 turned at last", held(with(5, 6, 6, 0), 0, 1, 2, 3, 4, 5, 15), 0);
+    due("26 its mirror", held(with(5, 6, 6, 0), 0, 10, 20, 30, 40, 50, 51), 0);
+    // Of five HOURS, 1, 2, 3, 4 and then 14 is 8 FAR, where straight on 5 would be 10.
+    due("26 turned at last", held(with(2, 5, 5, 6, 6, 0), 0, 1, 2, 3, 4, 14), 0);
   }
 
   /** "PIECES and DRAGS left out". */
@@ -378,7 +400,7 @@ public final class NextEdgesTest {
     }
     for (int cell = 0; cell < 100; cell += 99) x.depth(cell, 5 + manner);
     x.piece(40 + manner, 1, 0, 0, 9);
-    x.piece(41 + manner, 1, 0, 1, 9 - 9 * manner);
+    x.piece(41 + manner, 1 + manner, manner, 1 - manner, 9);
     x.drag(50 + manner, 3);
     x.drag(60 + manner, 5);
   }

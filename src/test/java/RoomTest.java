@@ -3,6 +3,8 @@ import java.lang.management.ManagementFactory;
 
 /** All calls of a run live in one room: rows are made with the object, calls make nothing. */
 public final class RoomTest {
+  /** Of 40 calls each: an object is used for at most 512. */
+  private static final int ROUNDS = 12;
   private static final ThreadMXBean BEAN = (ThreadMXBean) ManagementFactory.getThreadMXBean();
 
   public static void main(String[] args) {
@@ -16,9 +18,9 @@ public final class RoomTest {
     Check.holds("an object takes " + made + " bytes", made < 40_000);
     before = used();
     long sum = 0;
-    for (int i = 0; i < 60; i++) sum += round(x, i);
+    for (int i = 0; i < ROUNDS; i++) sum += round(x, i);
     long calls = used() - before;
-    System.out.println(calls + " bytes for 60 rounds of calls");
+    System.out.println(calls + " bytes for " + ROUNDS + " rounds of calls");
     Check.holds("calls take " + calls + " bytes (" + sum + ")", calls < 2_000);
     Check.end();
   }

@@ -26,6 +26,10 @@ public final class SeaEdgesTest {
     thousandthsAreCut();
     noneInOneInBoth();
     mostOfAll();
+    leastOdds();
+    fuelLeftOut();
+    cellZero();
+    fitsFollow();
     Check.end();
   }
 
@@ -509,5 +513,116 @@ public final class SeaEdgesTest {
     due("23 FUEL ahead of DRAGS", x.most(), 7);
     x.set(5, 60);
     due("23 DRAGS", x.most(), 12);
+  }
+
+  /** One WAY of WEIGHT 1: 72 has 2 and 83 has 1, the least that a CELL can have above 0; seen from 94. */
+  private static SevenRings least() {
+    SevenRings x = new SevenRings();
+    int[] settings = {94, 20, 3, 2, 1, 60, 1, 8};
+    for (int what = 0; what < 8; what++) x.set(what, settings[what]);
+    due("6", Check.rings(x, "1:9;2:12;3:4"), 3);
+    due("7 one WAY", x.ways(), 1);
+    due("8 of WEIGHT 1", x.weight(), 1);
+    return x;
+  }
+
+  private static void leastOdds() {
+    SevenRings x = least();
+    odds(x, 72, 2, 3);
+    odds(x, 83, 1, 3);
+    due("19", x.where(7), 4);
+    due("19", x.where(8), 8);
+    due("20", x.count(4), 2);
+    due("25", x.should(83, 0, 0, 0), 1);
+    due("25", x.should(83, 0, 0, 1), 3);
+    x.drag(72, 7);
+    odds(x, 72, 1, 5);
+    odds(x, 83, 4, 5);
+    due("24", x.next(), 83);
+    due("22", x.moves(12), 466 + 467);
+    x = least();
+    x.piece(74, 1, 0, 0, 0);
+    // 83 is beside 74, 72 is not: the sum is 1.
+    odds(x, 83, 1, 1);
+    odds(x, 72, 0, 1);
+    due("24", x.next(), 83);
+    due("25", x.should(83, 0, 1, 1), 1);
+    due("22", x.moves(8), 666 + 667);
+    x.drag(0, 1);
+    due("22 by DRAGS elsewhere nothing moves", x.moves(12), 0);
+    x.clear();
+    x.piece(83, 1, 0, 0, 0);
+    // 72 is beside 83: 2 by 1 against 1 by 4.
+    odds(x, 83, 2, 3);
+    x.piece(84, 1, 0, 0, 0);
+    odds(x, 83, 1, 1);
+  }
+
+  /** ASSUMPTION 7: as much FUEL as any WAY needs, 54: two WAYS from corner to corner, at PACE 3 all the six HOURS. */
+  private static void fuelLeftOut() {
+    for (int fuel : new int[] {0, 21, 53}) {
+      SevenRings x = new SevenRings();
+      x.set(0, 99);
+      x.ring(6, 0, 0);
+      x.set(5, fuel);
+      due("7 too little FUEL", x.ways(), 0);
+      due("22 without FUEL there are some", x.moves(7), 1000);
+      due("23 FUEL or the RING", x.most(), fuel < 6 ? 7 : 5);
+      x.set(5, 54);
+      due("7 enough FUEL", x.ways(), 2);
+      due("22 enough FUEL", x.moves(7), 0);
+    }
+  }
+
+  /** CELL 0 counts like others: from 10 to 0 alone, and on beyond. */
+  private static void cellZero() {
+    SevenRings x = new SevenRings();
+    x.set(1, 10);
+    x.set(2, 1);
+    x.ring(1, 0, 0);
+    odds(x, 0, 1, 1);
+    due("25 behind none", x.should(0, 0, 0, 0), 1);
+    due("25 behind all", x.should(0, 24, 0, 0), 1);
+    x.ring(1, 0, -1);
+    x.set(6, 0);
+    due("7", x.ways(), 11);
+    x.piece(0, 1, 0, 0, 0);
+    // 0 by 4, 1 and 11 by 1; 10 is THE START. Without it all eleven have 90 thousandths.
+    odds(x, 0, 2, 3);
+    due("22", x.moves(8), 666 - 90 + 2 * (166 - 90) + 8 * 90);
+    due("20", x.count(4), 3);
+    due("10 THE START", x.may(0, 1), 1);
+    due("10 not CELL 0", x.may(0, 0), 0);
+  }
+
+  /** What a PIECE FITS from a CELL is as WIND, CURRENTS and WARMTH are now, asked of the same CELL again and again. */
+  private static void fitsFollow() {
+    SevenRings x = one(0);
+    x.piece(57, 1, 1, 1, 3);
+    due("16 cold", x.fits(0, 57), 0);
+    due("18 cold", x.odds(57, 0), NONE);
+    x.cell(0, 57, 1, 3);
+    due("16 warm", x.fits(0, 57), 4);
+    odds(x, 57, 1, 1);
+    x.set(7, 2);
+    due("16 by the WIND", x.fits(0, 57), 1);
+    x.set(7, 8);
+    due("16 without it", x.fits(0, 57), 4);
+    x.cell(0, 57, 0, 0);
+    due("16 by a CURRENT", x.fits(0, 57), 1);
+    x.set(7, 0);
+    due("16 by both", x.fits(0, 57), 0);
+    due("18 by both", x.odds(57, 0), NONE);
+    due("11", Check.sea(x, 0, 5, "8888888488"), 1);
+    due("16 there and back", x.fits(0, 57), 4);
+    odds(x, 57, 1, 1);
+    x.image();
+    x.set(7, 8);
+    due("16 down", x.fits(0, 57), 1);
+    x.clear();
+    x.piece(77, 2, 1, 0, 0);
+    due("16 another PIECE", x.fits(0, 57), 1);
+    x.restore();
+    due("16 the one ahead", x.fits(0, 57), 4);
   }
 }

@@ -26,6 +26,7 @@ public final class WayEdgesTest {
     waysOfWeightZero();
     theEnd();
     theLastCourse();
+    mayFollows();
     Check.end();
   }
 
@@ -483,5 +484,26 @@ public final class WayEdgesTest {
     due("18 one more", x.odds(54, 1), 4);
     due("18 two more", x.odds(55, 1), 4);
     due("18 not three more", x.odds(56, 0), 0);
+  }
+
+  /** Promise 10: of each HOUR, of the first and the last ROW, and nothing of what was ahead of a change. */
+  private static void mayFollows() {
+    SevenRings x = with(T, 0);
+    due("10 THE START", x.may(0, 0), 1);
+    due("10 the last HOUR", x.may(6, 0), 64);
+    due("10 the last HOUR", x.may(6, 6), 65);
+    x.set(START, 99);
+    due("10 no longer there", x.may(0, 0), 0);
+    due("10 THE START", x.may(0, 9), 512);
+    due("10 no longer there", x.may(6, 0), 0);
+    due("10 no longer there", x.may(6, 6), 0);
+    due("10 the last HOUR", x.may(6, 9), 8);
+    due("10 the last HOUR", x.may(6, 3), 8 | 512);
+    x.set(H, 1);
+    for (int row = 0; row < 10; row++) due("10 HOUR 1", x.may(1, row), row < 6 ? 0 : row == 9 ? 64 | 128 | 256 : 512 | 1 << row);
+    x = to(57, with(START, 56, H, 1));
+    due("7 one WAY", x.ways(), 1);
+    due("10 of one WAY", x.may(0, 5), 64);
+    due("10 of one WAY", x.may(1, 5), 128);
   }
 }
